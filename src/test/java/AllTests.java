@@ -1,0 +1,17 @@
+/** Runs every test of the project; ends with exit code 1 if one fails. */
+public final class AllTests {
+    private AllTests() {
+    }
+
+    public static void main(String[] args) throws Exception {
+        FaceTests.runAll();
+        LanguageTests.runAll(args.length > 0 ? args[0] : "src/main/java/SteppedSpines.java");
+        BlockTests.runAll();
+        TextTests.runAll();
+        LookTests.runAll();
+        RandomRuns.runAll();
+        if (!Checks.closeWith("tests of the project")) {
+            System.exit(1);
+        }
+    }
+}
