@@ -78,6 +78,12 @@ final class TextTests {
         errorAt("g1;m3>x;x", 6);
         errorAt("m3>1;m3;b", 7);
         errorAt("m1>1;g1>1", 7);
+        errorAt("p1!", 2);
+        errorAt("p1/", 2);
+        errorAt("p1:", 2);
+        errorAt("f!", 1);
+        errorAt("f:", 1);
+        errorAt("b,b", 1);
         SteppedSpines spines = new SteppedSpines();
         Steps.type(spines, "g1;gg");
         spines.firstError();
@@ -128,6 +134,8 @@ final class TextTests {
         Checks.due("the stop stays", spines.gather(2) - 2 + spines.count(14), 1);
         Steps.undoable(spines, "work() without a stop", () -> Steps.work(spines, "g1"));
         Checks.due("the stop is back", spines.count(14), 1);
+        Steps.work(spines, "g1;f0");
+        Checks.due("no stop, when all parts are done", spines.count(14), -1);
     }
 
     private static void stopsAt(String text, int due, String block) {
