@@ -6,7 +6,7 @@ import java.util.regex.Pattern;
 
 /**
  * The document told once more, in the most roundabout way: lists that are copied for each change,
- * texts by patterns, moves by trying. An exception is the answer of a call, as REFUSED less its kind.
+ * texts by patterns, moves by trying. An exception is answered as BOUNDS, ARGUMENT or STATE.
  */
 final class Model {
     static final long BOUNDS = Long.MIN_VALUE;

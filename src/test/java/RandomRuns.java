@@ -11,6 +11,7 @@ final class RandomRuns {
     private SteppedSpines spines;
     private Model model;
     private String call;
+    private boolean growing;
     private final List<String> queue = new ArrayList<>();
 
     private RandomRuns(long seed) {
@@ -40,7 +41,12 @@ final class RandomRuns {
     private void oneRun(int run) {
         spines = new SteppedSpines();
         model = new Model();
-        for (int i = 0; i < CALLS; i++) {
+        growing = run % 4 == 0;
+        if (run % 3 > 0) {
+            spines.set(0, 1 + run % 5);
+            model.set(0, 1 + run % 5);
+        }
+        for (int i = 1; i < CALLS; i++) {
             long due = oneCall(i);
             long got = answer(due);
             if (got != due) {
@@ -92,8 +98,11 @@ final class RandomRuns {
             return append(queue.remove(0).charAt(0));
         }
         int kind = draw(100);
+        if (kind < (growing ? 2 : 22)) {
+            return mend();
+        }
         if (kind < 45) {
-            return change(kind);
+            return change(draw(growing && draw(4) > 0 ? 16 : 45));
         }
         if (kind < 62) {
             return text(kind);
@@ -112,56 +121,84 @@ final class RandomRuns {
         return way < 2 && fitting >= 0 ? fitting : way < 4 && missing >= 0 ? missing : odd(draw(16));
     }
 
+    /** Does what takes the fault away, or binds the block: so that runs come to books. */
+    private long mend() {
+        int place = (int) model.count(3);
+        int missing = (int) model.count(4);
+        switch ((int) model.count(2)) {
+            case 2: return flip(place);
+            case 3:
+            case 4: return pull(place);
+            case 6: return move((int) model.nextMove() / 20, (int) model.nextMove() % 20);
+            case 0: return bind();
+            default: return model.bin(missing, 0) == 0 ? print(missing, 1 + draw(3)) : gather(missing);
+        }
+    }
+
     private long change(int kind) {
-        if (kind < 14) {
-            int a = number();
-            pending = () -> spines.gather(a);
-            call = "gather(" + a + ")";
-            return model.gather(a);
+        if (kind < 12) {
+            return gather(number());
         }
-        if (kind < 17) {
-            int a = place();
-            int b = number();
-            pending = () -> spines.insert(a, b);
-            call = "insert(" + a + ", " + b + ")";
-            return model.insert(a, b);
+        if (kind < 16) {
+            return insert(place(), number());
         }
-        if (kind < 21) {
-            int a = place();
-            pending = () -> spines.pull(a);
-            call = "pull(" + a + ")";
-            return model.pull(a);
+        if (kind < 20) {
+            return pull(place());
         }
-        if (kind < 23) {
-            int a = place();
-            pending = () -> spines.flip(a);
-            call = "flip(" + a + ")";
-            return model.flip(a);
+        if (kind < 24) {
+            return flip(place());
         }
         if (kind < 30) {
-            int best = (int) model.nextMove();
-            boolean takeBest = best >= 0 && draw(3) > 0;
-            int a = takeBest ? best / 20 : place();
-            int b = takeBest ? best % 20 : place();
-            pending = () -> spines.move(a, b);
-            call = "move(" + a + ", " + b + ")";
-            return model.move(a, b);
+            return move(place(), place());
         }
-        if (kind < 34) {
-            pending = spines::bind;
-            call = "bind()";
-            return model.bind();
-        }
-        return changeBins(kind);
+        return kind < 32 ? bind() : changeBins(kind);
+    }
+
+    private long gather(int a) {
+        pending = () -> spines.gather(a);
+        call = "gather(" + a + ")";
+        return model.gather(a);
+    }
+
+    private long insert(int a, int b) {
+        pending = () -> spines.insert(a, b);
+        call = "insert(" + a + ", " + b + ")";
+        return model.insert(a, b);
+    }
+
+    private long pull(int a) {
+        pending = () -> spines.pull(a);
+        call = "pull(" + a + ")";
+        return model.pull(a);
+    }
+
+    private long flip(int a) {
+        pending = () -> spines.flip(a);
+        call = "flip(" + a + ")";
+        return model.flip(a);
+    }
+
+    private long move(int a, int b) {
+        pending = () -> spines.move(a, b);
+        call = "move(" + a + ", " + b + ")";
+        return model.move(a, b);
+    }
+
+    private long bind() {
+        pending = spines::bind;
+        call = "bind()";
+        return model.bind();
+    }
+
+    private long print(int a, int b) {
+        pending = () -> spines.print(a, b);
+        call = "print(" + a + ", " + b + ")";
+        return model.print(a, b);
     }
 
     private long changeBins(int kind) {
         if (kind < 37) {
-            int a = number();
-            int b = odd(1 + draw(20));
-            pending = () -> spines.print(a, b);
-            call = "print(" + a + ", " + b + ")";
-            return model.print(a, b);
+            return print(number(), odd(1 + draw(20)));
         }
         if (kind < 40) {
             int a = number();
@@ -189,11 +226,20 @@ final class RandomRuns {
     }
 
     private long text(int kind) {
-        if (kind < 49) {
-            typePart();
-            return append(model.buffer().isEmpty() ? 'b' : ';');
+        boolean isSpoiled = model.firstError() < model.buffer().length();
+        if (isSpoiled && draw(3) == 0) {
+            pending = spines::clearBuffer;
+            call = "clearBuffer()";
+            return model.clearBuffer();
         }
-        if (kind < 51) {
+        if (kind < 49) {
+            String text = (model.buffer().isEmpty() ? "" : ";") + part();
+            for (int i = 1; i < text.length(); i++) {
+                queue.add(text.substring(i, i + 1));
+            }
+            return append(text.charAt(0));
+        }
+        if (kind < 51 && draw(8) == 0) {
             return append(odd("gpfmb;>0123456789x~! ".charAt(draw(21))));
         }
         if (kind < 52) {
@@ -206,12 +252,12 @@ final class RandomRuns {
             call = "firstError()";
             return model.firstError();
         }
-        if (kind < 59) {
+        if (kind < 57) {
             pending = spines::work;
             call = "work()";
             return model.work();
         }
-        if (kind < 60) {
+        if (kind < 59) {
             pending = spines::keep;
             call = "keep()";
             return model.keep();
@@ -221,17 +267,37 @@ final class RandomRuns {
         return model.goBack();
     }
 
-    private void typePart() {
-        String[] letters = {"g", "g", "g", "p", "f", "m"};
-        String letter = letters[draw(letters.length)];
-        String text = letter + draw(draw(2) == 0 ? 5 : 20);
-        text += letter.equals("m") ? ">" + draw(6) : "";
-        text += draw(6) == 0 ? ";b" : "";
-        for (int i = 0; i < text.length(); i++) {
-            queue.add(text.substring(i, i + 1));
+    /** Mostly a part that can be done; at times one that stops the work, or a number that no text may have. */
+    private String part() {
+        int missing = (int) model.count(4);
+        switch (draw(10)) {
+            case 0:
+            case 1:
+            case 2: return "g" + (missing >= 0 && draw(2) == 0 ? missing : draw(16));
+            case 3: return "p" + textNumber();
+            case 4: return "f" + textNumber();
+            case 5: return "m" + textNumber() + ">" + textNumber();
+            case 6: return mendingPart();
+            case 7: return "b";
+            case 8: return mendingPart() + ";b";
+            default: return draw(4) == 0 ? "g1" + draw(10) : "g" + draw(10);
         }
-        if (model.buffer().length() % 7 == 0) {
-            queue.clear();
+    }
+
+    private int textNumber() {
+        return draw(40) == 0 ? 15 + draw(10) : draw((int) model.count(0) + 1);
+    }
+
+    private String mendingPart() {
+        long place = model.count(3);
+        long move = model.nextMove();
+        switch ((int) model.count(2)) {
+            case 2: return "f" + place;
+            case 3:
+            case 4: return "p" + place;
+            case 6: return "m" + move / 20 + ">" + move % 20;
+            case 0: return "b";
+            default: return "g" + model.count(4);
         }
     }
 
