@@ -5,10 +5,17 @@ public final class AllTests {
 
     public static void main(String[] args) throws Exception {
         FaceTests.runAll();
-        LanguageTests.runAll(args.length > 0 ? args[0] : "src/main/java/SteppedSpines.java");
+        String file = args.length > 0 ? args[0] : "src/main/java/SteppedSpines.java";
+        LanguageTests.runAll(file);
+        RuleTests.runAll(file);
         BlockTests.runAll();
         TextTests.runAll();
         LookTests.runAll();
+        RefusalTests.runAll();
+        RangeTests.runAll();
+        TermTests.runAll();
+        GrammarTests.runAll();
+        UndoTests.runAll();
         RandomRuns.runAll();
         if (!Checks.closeWith("tests of the project")) {
             System.exit(1);

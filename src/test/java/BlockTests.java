@@ -5,6 +5,7 @@ final class BlockTests {
 
     static void runAll() {
         Checks.test("promise 1: a new object", BlockTests::newObject);
+        Checks.test("promise 1: objects stand by themselves", BlockTests::objectsByThemselves);
         Checks.test("promise 2: gather", BlockTests::gather);
         Checks.test("promise 2: gather refuses", BlockTests::gatherRefuses);
         Checks.test("promise 3: insert", BlockTests::insert);
@@ -36,6 +37,17 @@ final class BlockTests {
         Checks.due("setting(2)", spines.setting(2), 2);
         Checks.due("clearBuffer()", spines.clearBuffer(), 0);
         Checks.due("goBack() throws", Checks.thrownBy(spines::goBack), Steps.STATE.getName());
+    }
+
+    private static void objectsByThemselves() {
+        SteppedSpines spines = new SteppedSpines();
+        String due = Steps.story(new SteppedSpines());
+        SteppedSpines other = Steps.rich();
+        String rich = Steps.story(Steps.rich());
+        Checks.due("a new object beside another", Steps.story(spines), due);
+        spines.gather(3);
+        spines.keep();
+        Checks.due("the other", Steps.story(other), rich);
     }
 
     private static void gather() {

@@ -55,6 +55,13 @@ final class Checks {
         due(name + " leaves the digest", spines.digest(), before);
     }
 
+    /** The same, and neither a saved state nor the snapshot is changed: held against a twin without the call. */
+    static void refused(Steps.Maker maker, String name, Class<?> exception, Steps.Calls call) {
+        SteppedSpines spines = maker.make();
+        due(name + " throws", thrownBy(() -> call.on(spines)), exception.getName());
+        due(name + " leaves", Steps.story(spines), Steps.story(maker.make()));
+    }
+
     static String thrownBy(Call call) {
         try {
             call.run();

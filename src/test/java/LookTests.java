@@ -1,3 +1,5 @@
+import java.math.BigInteger;
+
 /** Promises 18 to 28: looks, and what would be. */
 final class LookTests {
     private LookTests() {
@@ -21,6 +23,10 @@ final class LookTests {
         Checks.test("promise 26: stairShare", LookTests::stairShare);
         Checks.test("promise 27: meanThread", LookTests::meanThread);
         Checks.test("promise 28: digest", LookTests::digest);
+        Checks.test("promise 28: digest of each share", LookTests::digestOfShares);
+        Checks.test("promise 28: digest of many means", LookTests::digestOfMeans);
+        Checks.test("promise 28: digest overflows", LookTests::digestOverflows);
+        Checks.test("promise 28: digest of snapshots and texts", LookTests::digestOfTexts);
     }
 
     private static void sheet() {
@@ -288,28 +294,117 @@ final class LookTests {
     }
 
     private static void digest() {
-        SteppedSpines spines = new SteppedSpines();
-        Checks.due("digest() of a new object", spines.digest(), -6248597308725246711L);
-        sameDigest(spines, false, "");
-        Steps.type(spines, "g1;");
-        sameDigest(spines, false, "g1;");
-        spines.keep();
-        sameDigest(spines, true, "g1;");
+        sameDigest(SteppedSpines::new, false, "");
+        Checks.due("digest() of a new object", new SteppedSpines().digest(), -6248597308725246711L);
+        sameDigest(() -> manySheets(0, ""), true, "");
+        for (int sheets = 0; sheets <= 20; sheets++) {
+            int gathered = sheets;
+            sameDigest(() -> manySheets(gathered, "g1;"), true, "g1;");
+        }
+        sameDigest(Steps::rich, true, "g1;m");
+    }
+
+    private static SteppedSpines manySheets(int sheets, String buffer) {
         int[] numbers = {9, 0, 1, 2, 2, 4, 15, 3, 3, 5, 6, 7, 8, 12, 1, 0, 6, 9, 10, 13};
-        for (int i = 0; i < numbers.length; i++) {
+        SteppedSpines spines = new SteppedSpines();
+        spines.keep();
+        Steps.type(spines, buffer);
+        for (int i = 0; i < sheets; i++) {
             spines.gather(numbers[i]);
             spines.punch(numbers[i], 1 + 7 * i % 31);
             if (i % 4 == 1) {
                 spines.flip(i);
             }
-            sameDigest(spines, true, "g1;");
-            Checks.due("digest() again", spines.digest(), spines.digest());
         }
-        for (int length = 1; length <= 9; length++) {
-            spines.set(2, length);
-            spines.set(1, 2 + length % 7);
-            sameDigest(spines, true, "g1;");
+        return spines;
+    }
+
+    /** Each share of 0 to 20 in 1 to 20 sheets. */
+    private static void digestOfShares() {
+        for (int sheets = 1; sheets <= 20; sheets++) {
+            for (int whole = 0; whole <= sheets; whole++) {
+                int length = sheets;
+                int stair = whole;
+                SteppedSpines spines = stairOf(length, stair);
+                Checks.due("stairShare()", spines.stairShare(), (double) stair / length);
+                sameDigest(() -> stairOf(length, stair), false, "");
+            }
         }
+    }
+
+    private static SteppedSpines stairOf(int sheets, int whole) {
+        SteppedSpines spines = new SteppedSpines();
+        spines.print(0, 20);
+        spines.print(1, 20);
+        spines.set(1, 2);
+        for (int place = 0; place < sheets; place++) {
+            spines.gather(place < whole ? place % 2 : whole % 2 == 0 ? 1 : 0);
+        }
+        return spines;
+    }
+
+    /** Mean lengths with many bits: each length of a stitch, each number of sheets, some holes. */
+    private static void digestOfMeans() {
+        for (int sheets = 1; sheets <= 20; sheets++) {
+            for (int length = 1; length <= 9; length++) {
+                int gathered = sheets;
+                int stitch = length;
+                sameDigest(() -> sewnRow(gathered, stitch), false, "b");
+            }
+        }
+    }
+
+    private static SteppedSpines sewnRow(int sheets, int stitch) {
+        SteppedSpines spines = new SteppedSpines();
+        spines.set(2, stitch);
+        for (int place = 0; place < sheets; place++) {
+            spines.gather(place * 7 % 16);
+            spines.punch(place * 3 % 16, 1 + (place * 11 + stitch * 5) % 31);
+        }
+        spines.append('b');
+        return spines;
+    }
+
+    /** The same sum without an end, of which the low 64 bits are told. */
+    private static void digestOverflows() {
+        SteppedSpines spines = new SteppedSpines();
+        BigInteger hash = BigInteger.valueOf(3853);
+        int[] counts = {0, 0, 1, -1, 0, 1, 0, 0, 0, 0, 0, 0, 0, 0, -1, 0, 8, 5, 2};
+        for (int value : counts) {
+            hash = hash.multiply(BigInteger.valueOf(31)).add(BigInteger.valueOf(value));
+        }
+        for (int number = 0; number < 16; number++) {
+            for (int value : new int[] {2, 0, 0, 2, 31}) {
+                hash = hash.multiply(BigInteger.valueOf(31)).add(BigInteger.valueOf(value));
+            }
+        }
+        long one = 0x3ff0000000000000L;
+        for (long value : new long[] {-1, 0, 2, one, 0, 0, 0}) {
+            hash = hash.multiply(BigInteger.valueOf(31)).add(BigInteger.valueOf(value));
+        }
+        Checks.due("it overflows", hash.bitLength() > 64 ? 1 : 0, 1);
+        Checks.due("digest()", spines.digest(), hash.longValue());
+    }
+
+    /** The snapshot counts by being there alone, the buffer by each character and its place. */
+    private static void digestOfTexts() {
+        long none = new SteppedSpines().digest();
+        SteppedSpines kept = new SteppedSpines();
+        kept.keep();
+        Checks.due("digest() with a snapshot", kept.digest(), none + 31);
+        kept.keep();
+        Checks.due("digest() with another one", kept.digest(), none + 31);
+        SteppedSpines typed = new SteppedSpines();
+        for (int i = 1; i <= 60; i++) {
+            typed.append(126);
+        }
+        long hash = none + 60;
+        for (int i = 1; i <= 60; i++) {
+            hash = 31 * hash + 126;
+        }
+        Checks.due("digest() with 60 characters", typed.digest(), hash);
+        typed.clearBuffer();
+        Checks.due("digest() with a cleared buffer", typed.digest(), none);
     }
 
     private static void sewn(SteppedSpines spines, int stitches, int length, int loose) {
@@ -338,7 +433,11 @@ final class LookTests {
         Checks.due("the digest behind ifPulled()", spines.digest(), before);
     }
 
-    private static void sameDigest(SteppedSpines spines, boolean kept, String buffer) {
-        Checks.due("digest() of " + Steps.block(spines), spines.digest(), Steps.digestOf(spines, kept, buffer));
+    /** The looks that the digest is reckoned from are those of a twin: no object is used for too many calls. */
+    private static void sameDigest(Steps.Maker maker, boolean kept, String buffer) {
+        SteppedSpines spines = maker.make();
+        long digest = spines.digest();
+        Checks.due("digest() again", spines.digest(), digest);
+        Checks.due("digest() of " + Steps.block(spines), digest, Steps.digestOf(maker.make(), kept, buffer));
     }
 }

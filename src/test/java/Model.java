@@ -510,4 +510,34 @@ final class Model {
     float meanThread() {
         return world.block.isEmpty() ? 0.0f : (float) threads() / world.block.size();
     }
+
+    long digest() {
+        List<Long> values = new ArrayList<>();
+        for (int what = 0; what < 16; what++) {
+            values.add(count(what));
+        }
+        for (int which = 0; which < 3; which++) {
+            values.add(setting(which));
+        }
+        for (int place = 0; place < world.block.size(); place++) {
+            for (int what = 0; what < 6; what++) {
+                values.add(sheet(place, what));
+            }
+            for (int what = 0; what < 4; what++) {
+                values.add(ifPulled(place, what));
+            }
+        }
+        for (int number = 0; number < 16; number++) {
+            for (int what = 0; what < 5; what++) {
+                values.add(bin(number, what));
+            }
+        }
+        Collections.addAll(values, nextMove(), fits(), books());
+        Collections.addAll(values, Double.doubleToLongBits(stairShare()), (long) Float.floatToIntBits(meanThread()));
+        Collections.addAll(values, kept() ? 1L : 0L, (long) buffer.length());
+        for (char code : buffer.toCharArray()) {
+            values.add((long) code);
+        }
+        return values.stream().reduce(3853L, (hash, value) -> 31 * hash + value);
+    }
 }

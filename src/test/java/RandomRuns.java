@@ -3,7 +3,7 @@ import java.util.List;
 
 /** Long runs of calls, drawn by a fixed rule, whose answers are held against those of the model. */
 final class RandomRuns {
-    private static final int RUNS = 240;
+    private static final int RUNS = 320;
     private static final int CALLS = 512;
     private static final int[] ODD_NUMBERS = {-1, 16, 20, 21, 99, -20, Integer.MAX_VALUE, Integer.MIN_VALUE};
 
@@ -11,7 +11,10 @@ final class RandomRuns {
     private SteppedSpines spines;
     private Model model;
     private String call;
+    /** By turns, runs come to full blocks, to long texts, and to full bins. */
     private boolean growing;
+    private boolean writing;
+    private boolean printing;
     private final List<String> queue = new ArrayList<>();
 
     private RandomRuns(long seed) {
@@ -38,42 +41,34 @@ final class RandomRuns {
         return draw(25) == 0 ? ODD_NUMBERS[draw(ODD_NUMBERS.length)] : usual;
     }
 
+    /** 512 calls in all: an object is used for no more. */
     private void oneRun(int run) {
         spines = new SteppedSpines();
         model = new Model();
         growing = run % 4 == 0;
+        writing = run % 4 == 1;
+        printing = run % 4 == 2;
+        int calls = 0;
         if (run % 3 > 0) {
             spines.set(0, 1 + run % 5);
             model.set(0, 1 + run % 5);
+            calls++;
         }
-        for (int i = 1; i < CALLS; i++) {
-            long due = oneCall(i);
+        while (calls < CALLS) {
+            calls++;
+            long due = calls % 4 == 0 ? digest() : oneCall();
             long got = answer(due);
             if (got != due) {
-                Checks.due("run " + run + ", call " + i + ": " + call, got, due);
-                return;
-            }
-            if (i % 3 == 0 && !sameDigest()) {
-                Checks.due("run " + run + ", the digest behind call " + i + ": " + call, 0, 1);
+                Checks.due("run " + run + ", call " + calls + ": " + call, got, due);
                 return;
             }
         }
-        lookAtAll(run);
     }
 
-    private boolean sameDigest() {
-        return spines.digest() == Steps.digestOf(spines, model.kept(), model.buffer());
-    }
-
-    private void lookAtAll(int run) {
-        for (int what = 0; what < 16; what++) {
-            Checks.due("run " + run + " count(" + what + ")", spines.count(what), model.count(what));
-        }
-        for (int number = 0; number < 16; number++) {
-            for (int what = 0; what < 5; what++) {
-                Checks.due("run " + run + " bin", spines.bin(number, what), model.bin(number, what));
-            }
-        }
+    private long digest() {
+        pending = spines::digest;
+        call = "digest()";
+        return model.digest();
     }
 
     private interface Answer {
@@ -93,7 +88,7 @@ final class RandomRuns {
     }
 
     /** Draws a call; answers what the model does, and lets the class's own answer wait. */
-    private long oneCall(int index) {
+    private long oneCall() {
         if (!queue.isEmpty()) {
             return append(queue.remove(0).charAt(0));
         }
@@ -198,7 +193,7 @@ final class RandomRuns {
 
     private long changeBins(int kind) {
         if (kind < 37) {
-            return print(number(), odd(1 + draw(20)));
+            return printing ? print(draw(2), odd(12 + draw(9))) : print(number(), odd(1 + draw(20)));
         }
         if (kind < 40) {
             int a = number();
@@ -232,7 +227,8 @@ final class RandomRuns {
             call = "clearBuffer()";
             return model.clearBuffer();
         }
-        if (kind < 49) {
+        boolean isShort = writing && model.buffer().length() < 25 + draw(40);
+        if (kind < 49 || kind < 57 && isShort) {
             String text = (model.buffer().isEmpty() ? "" : ";") + part();
             for (int i = 1; i < text.length(); i++) {
                 queue.add(text.substring(i, i + 1));

@@ -54,6 +54,53 @@ final class Steps {
         return text.toString();
     }
 
+    /** Makes an object by the same calls, each time. */
+    interface Maker {
+        SteppedSpines make();
+    }
+
+    /** Some calls on an object. */
+    interface Calls {
+        void on(SteppedSpines spines);
+    }
+
+    /**
+     * All that an object holds, the saved states and the snapshot too: its digest, and those behind
+     * each undo() and behind goBack(). The object is used up by it.
+     */
+    static String story(SteppedSpines spines) {
+        StringBuilder text = new StringBuilder().append(spines.digest());
+        for (int left = spines.count(15); left > 0; left--) {
+            spines.undo();
+            text.append(" undone ").append(spines.digest());
+        }
+        if (Checks.thrownBy(spines::goBack).equals("nothing")) {
+            text.append(" kept ").append(spines.digest());
+        }
+        return text.toString();
+    }
+
+    /**
+     * An object with something of each kind: a bound book, a stop, a block with like sheets, one of
+     * them upside down, an empty bin (3), one of 82 copies (5), other holes and settings, six saved
+     * states, a snapshot of another block, and characters in the buffer.
+     */
+    static SteppedSpines rich() {
+        SteppedSpines spines = bookOf(2, 0, 1);
+        spines.bind();
+        work(spines, "g3;g3;p9");
+        for (int i = 0; i < 4; i++) {
+            spines.print(5, 20);
+        }
+        spines.punch(3, 6);
+        spines.set(1, 4);
+        spines.flip(1);
+        spines.keep();
+        spines.gather(7);
+        type(spines, "g1;m");
+        return spines;
+    }
+
     /** The call saves exactly one state, and undo() takes back all that it changed. */
     static void undoable(SteppedSpines spines, String name, Checks.Call call) {
         long before = spines.digest();
