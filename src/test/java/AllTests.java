@@ -8,6 +8,7 @@ public final class AllTests {
         String file = args.length > 0 ? args[0] : "src/main/java/SteppedSpines.java";
         LanguageTests.runAll(file);
         RuleTests.runAll(file);
+        ReadmeTests.runAll(file);
         BlockTests.runAll();
         TextTests.runAll();
         LookTests.runAll();

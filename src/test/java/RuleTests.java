@@ -3,9 +3,13 @@ import com.sun.source.util.JavacTask;
 import com.sun.source.util.TreePath;
 import com.sun.source.util.TreePathScanner;
 import com.sun.source.util.Trees;
+import java.lang.reflect.Field;
 import java.nio.file.Path;
+import java.util.ArrayDeque;
+import java.util.ArrayList;
 import java.util.HashMap;
 import java.util.HashSet;
+import java.util.IdentityHashMap;
 import java.util.List;
 import java.util.Map;
 import java.util.Set;
@@ -31,6 +35,12 @@ final class RuleTests extends TreePathScanner<Void, Void> {
             Tree.Kind.SYNCHRONIZED, Tree.Kind.ASSERT);
     /** Where the indexes of saved states are looked at; all other cells are read and written by at() and put(). */
     private static final Set<String> INDEXING = Set.of("at", "put", "History.<init>", "save", "dropOldest", "restore");
+
+    /** Where a divisor is looked at before it divides; all other divisors are written out. */
+    private static final Set<String> DIVIDING = Set.of("stepOfNumber", "stairShare", "meanThread");
+    private static final Set<Tree.Kind> COMPARING = Set.of(Tree.Kind.LESS_THAN, Tree.Kind.LESS_THAN_EQUAL,
+            Tree.Kind.GREATER_THAN, Tree.Kind.GREATER_THAN_EQUAL);
+    private static final Set<Tree.Kind> STEPPING = Set.of(Tree.Kind.POSTFIX_INCREMENT, Tree.Kind.POSTFIX_DECREMENT);
 
     private final Trees trees;
     private final CompilationUnitTree unit;
@@ -58,16 +68,51 @@ final class RuleTests extends TreePathScanner<Void, Void> {
     }
 
     private void told() {
-        for (String rule : new String[] {"1", "2", "3", "4", "5", "6", "7", "10", "11", "12"}) {
+        for (String rule : new String[] {"1", "2", "3", "4", "5", "6", "7", "9", "10", "11", "12"}) {
             Checks.test("language: rule " + rule, () -> Checks.due("breaks of rule " + rule, found.getOrDefault(rule, ""), ""));
         }
         Checks.test("language: rule 11, classes", () -> Checks.due("at most twelve", classes <= 12 ? 1 : 0, 1));
+        Checks.test("language: rule 12, what an object holds", RuleTests::heldByAnObject);
         Checks.test("language: rules 8 and 11, calls at most eight deep", () -> {
             Checks.due("methods that were seen", own.size() > 100 ? 1 : 0, 1);
             for (String method : new TreeSet<>(own)) {
                 Checks.due("depth below " + method, depth(method, 0) <= 8 ? 1 : 0, 1);
             }
         });
+    }
+
+    /** The room of a run, by rule 12, holds some 600,000 objects with 7.3 million fields and elements. */
+    private static void heldByAnObject() {
+        Map<Object, Boolean> seen = new IdentityHashMap<>();
+        ArrayDeque<Object> next = new ArrayDeque<>(List.of(new SteppedSpines()));
+        int parts = 0;
+        while (!next.isEmpty()) {
+            Object object = next.remove();
+            if (seen.put(object, true) == null) {
+                parts += object instanceof int[] ? ((int[]) object).length : partsOf(object, next);
+            }
+        }
+        Checks.due("at most 200 objects", seen.size() <= 200 ? 1 : 0, 1);
+        Checks.due("at most 4,000 fields and elements", parts <= 4000 ? 1 : 0, 1);
+    }
+
+    private static int partsOf(Object object, ArrayDeque<Object> next) {
+        List<Object> parts = new ArrayList<>();
+        try {
+            for (Field field : object.getClass().isArray() ? new Field[0] : object.getClass().getDeclaredFields()) {
+                if (!java.lang.reflect.Modifier.isStatic(field.getModifiers())) {
+                    field.setAccessible(true);
+                    parts.add(field.getType().isPrimitive() ? 0 : field.get(object));
+                }
+            }
+        } catch (IllegalAccessException e) {
+            throw new IllegalStateException(e);
+        }
+        if (object instanceof Object[]) {
+            parts.addAll(List.of((Object[]) object));
+        }
+        parts.stream().filter(part -> !(part instanceof Integer)).forEach(next::add);
+        return parts.size();
     }
 
     /** A recursion would come to more than eight, too. */
@@ -225,7 +270,68 @@ final class RuleTests extends TreePathScanner<Void, Void> {
         if (trees.getTypeMirror(getCurrentPath()).toString().equals("java.lang.String")) {
             refuse("10", tree);
         }
+        if (tree.getKind() == Tree.Kind.DIVIDE || tree.getKind() == Tree.Kind.REMAINDER) {
+            lookAtDivisor(tree.getRightOperand());
+        }
         return super.visitBinary(tree, p);
+    }
+
+    private void lookAtDivisor(ExpressionTree divisor) {
+        String method = around();
+        boolean isWritten = divisor instanceof LiteralTree && !divisor.toString().matches("0L?|0\\.0f?");
+        if (!isWritten && DIVIDING.stream().noneMatch(name -> method.endsWith("." + name))) {
+            refuse("7", divisor + " in " + method);
+        }
+    }
+
+    @Override
+    public Void visitCompoundAssignment(CompoundAssignmentTree tree, Void p) {
+        if (tree.getKind() == Tree.Kind.DIVIDE_ASSIGNMENT || tree.getKind() == Tree.Kind.REMAINDER_ASSIGNMENT) {
+            refuse("7", tree);
+        }
+        return super.visitCompoundAssignment(tree, p);
+    }
+
+    @Override
+    public Void visitForLoop(ForLoopTree tree, Void p) {
+        lookAtLoop(tree.getCondition(), tree.getUpdate());
+        return super.visitForLoop(tree, p);
+    }
+
+    @Override
+    public Void visitWhileLoop(WhileLoopTree tree, Void p) {
+        ExpressionTree condition = ((ParenthesizedTree) tree.getCondition()).getExpression();
+        boolean isBlock = tree.getStatement() instanceof BlockTree;
+        lookAtLoop(condition, isBlock ? ((BlockTree) tree.getStatement()).getStatements() : List.of(tree.getStatement()));
+        return super.visitWhileLoop(tree, p);
+    }
+
+    @Override
+    public Void visitDoWhileLoop(DoWhileLoopTree tree, Void p) {
+        refuse("9", tree);
+        return super.visitDoWhileLoop(tree, p);
+    }
+
+    /** Stricter than the rule: each turn counts a variable, up or down, that has to be within a bound to go on. */
+    private void lookAtLoop(ExpressionTree condition, List<? extends StatementTree> turn) {
+        boolean hasEnd = turn.stream().anyMatch(step -> step instanceof ExpressionStatementTree
+                && STEPPING.contains(((ExpressionStatementTree) step).getExpression().getKind())
+                && bounds(condition, ((UnaryTree) ((ExpressionStatementTree) step).getExpression()).getExpression()));
+        if (!hasEnd) {
+            refuse("9", "a loop of " + around());
+        }
+    }
+
+    private static boolean bounds(ExpressionTree condition, ExpressionTree counter) {
+        if (condition == null) {
+            return false;
+        }
+        if (condition.getKind() == Tree.Kind.CONDITIONAL_AND) {
+            BinaryTree both = (BinaryTree) condition;
+            return bounds(both.getLeftOperand(), counter) || bounds(both.getRightOperand(), counter);
+        }
+        return COMPARING.contains(condition.getKind())
+                && ((BinaryTree) condition).getLeftOperand().toString().equals(counter.toString());
     }
 
     @Override
