@@ -178,6 +178,25 @@ final class TermTests {
             spines.flip(place);
             fault(spines, place < 19 ? 2 : 3, place < 19 ? 19 : 8);
         }
+        for (int place = 0; place < 3; place++) {
+            pulledUpsideDown(place);
+        }
+    }
+
+    /** A sheet that is no longer in the block is no fault of it, wherever it lay. */
+    private static void pulledUpsideDown(int place) {
+        SteppedSpines spines = Steps.bookOf(2, 0, 1);
+        spines.insert(place, place == 2 ? 1 : place);
+        spines.flip(place);
+        fault(spines, 2, place);
+        Checks.due("fault without the place " + place, spines.ifPulled(place, 1), 0);
+        spines.pull(place);
+        fault(spines, 0, -1);
+        Checks.due("bind", spines.bind(), 1);
+        fault(spines, 1, -1);
+        Steps.gather(spines, 0, 1);
+        fault(spines, 0, -1);
+        Checks.due("bind again", spines.bind(), 2);
     }
 
     private static void placesOfForeign() {
