@@ -22,6 +22,7 @@ final class TermTests {
         Checks.test("terms: the place of a sheet out of order", TermTests::placesOutOfOrder);
         Checks.test("terms: hidden faults of each kind", TermTests::hiddenFaults);
         Checks.test("terms: the fewest moves of each short block (promises 20, 22 and 23)", TermTests::fewestMoves);
+        Checks.test("terms: moves behind those of a larger block (promises 20, 22 and 23)", TermTests::movesOfSmaller);
         Checks.test("terms: each pair of masks, sewn (promises 18, 20 and 23)", TermTests::pairsOfMasks);
         Checks.test("terms: loose places (promise 20)", TermTests::loosePlaces);
         Checks.test("terms: books by each least number (promise 25)", TermTests::booksByLeast);
@@ -367,6 +368,40 @@ final class TermTests {
             }
         }
         return -1;
+    }
+
+    /** Blocks that become smaller, sheet by sheet: nothing of what was reckoned for the larger ones is left. */
+    private static void movesOfSmaller() {
+        for (int way = 0; way < 625; way++) {
+            SteppedSpines spines = new SteppedSpines();
+            for (int i = 0, rest = way; i < 4; i++, rest /= 5) {
+                spines.insert(rest % 5 % (i + 1), 5 + rest % 5 % 4);
+                if (spines.bin(5 + rest % 5 % 4, 0) == 0) {
+                    spines.print(5 + rest % 5 % 4, 2);
+                }
+            }
+            while (spines.count(0) > 0) {
+                lookedAtAnew(spines);
+                spines.pull(way % spines.count(0));
+            }
+            lookedAtAnew(spines);
+        }
+    }
+
+    /** The moves are those of an object that never had another block. */
+    private static void lookedAtAnew(SteppedSpines spines) {
+        SteppedSpines anew = new SteppedSpines();
+        for (int place = 0; place < spines.count(0); place++) {
+            anew.print(spines.sheet(place, 0), 1);
+            anew.gather(spines.sheet(place, 0));
+        }
+        String name = " of " + Steps.block(spines) + " behind a larger block";
+        Checks.due("nextMove" + name, spines.nextMove(), anew.nextMove());
+        Checks.due("fewest moves by sheets" + name, spines.count(6), anew.count(6));
+        Checks.due("fewest moves by piles" + name, spines.count(7), anew.count(7));
+        for (int place = 0; place < spines.count(0); place++) {
+            Checks.due("moves without " + place + name, spines.ifPulled(place, 2), anew.ifPulled(place, 2));
+        }
     }
 
     private static void pairsOfMasks() {
